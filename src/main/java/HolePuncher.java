@@ -36,9 +36,9 @@ public final class HolePuncher {
 
     private final Network network = new Network();
     private final Network saved = new Network();
-    /** For what is only tried: a packet that is not really sent, a text that may be wrong. */
+    /** For packets that are only tried. */
     private final Network trial = new Network();
-    private final NetworkReader reader = new NetworkReader(trial);
+    private final NetworkReader reader = new NetworkReader();
     private final int[] buffer = new int[MAX_BUFFER];
     private int bufferLength = 0;
     private boolean isSaved = false;
@@ -144,7 +144,7 @@ public final class HolePuncher {
         if (read != bufferLength || !reader.isComplete()) {
             throw new IllegalArgumentException("the buffer is not a complete network");
         }
-        network.copyFrom(trial);
+        network.copyFrom(reader.made);
         isSaved = false;
         bufferLength = 0;
         return network.nodeCount;
@@ -190,20 +190,9 @@ public final class HolePuncher {
 
     public int punch(int a, int b, int server, boolean predict)
             throws IndexOutOfBoundsException, IllegalArgumentException, IllegalStateException {
-        Node nodeA = network.hostAt(a);
-        Node nodeB = network.hostAt(b);
-        Node nodeOfServer = network.hostAt(server);
-        if (nodeA == null || nodeB == null || nodeOfServer == null) {
-            throw new IndexOutOfBoundsException("one of the three is not a host");
-        }
-        if (a == b || a == server || b == server) {
-            throw new IllegalArgumentException("two of the three are the same");
-        }
-        if (network.tick > LAST_PUNCH_TICK) {
-            throw new IllegalStateException("the tick is greater than 99990");
-        }
-        Peer peerA = new Peer(a, nodeA);
-        Peer peerB = new Peer(b, nodeB);
+        checkPunch(a, b, server);
+        Peer peerA = new Peer(a);
+        Peer peerB = new Peer(b);
         if (!showItself(peerA, server, 1) || !showItself(peerB, server, 1)) {
             return 0;
         }
@@ -216,7 +205,27 @@ public final class HolePuncher {
             peerB.target = predicted(peerB.target, peerA.seen);
             peerA.target = predicted(peerA.target, peerB.seen);
         }
-        return roundsUntilHeard(peerA, peerB);
+        for (int round = 1; round <= PUNCH_ROUNDS; round++) {
+            knock(peerA, peerB);
+            knock(peerB, peerA);
+            network.advance(1);
+            if (peerA.hasHeard && peerB.hasHeard) {
+                return round;
+            }
+        }
+        return NONE;
+    }
+
+    private void checkPunch(int a, int b, int server) {
+        if (network.hostAt(a) == null || network.hostAt(b) == null || network.hostAt(server) == null) {
+            throw new IndexOutOfBoundsException("one of the three is not a host");
+        }
+        if (a == b || a == server || b == server) {
+            throw new IllegalArgumentException("two of the three are the same");
+        }
+        if (network.tick > LAST_PUNCH_TICK) {
+            throw new IllegalStateException("the tick is greater than 99990");
+        }
     }
 
     /** A peer sends to a port of the server, which sees its endpoint; false if it does not. */
@@ -236,23 +245,13 @@ public final class HolePuncher {
         return endpoint(nodeOf(second), isPort(port) ? port : portOf(second));
     }
 
-    private int roundsUntilHeard(Peer peerA, Peer peerB) {
-        for (int round = 1; round <= PUNCH_ROUNDS; round++) {
-            knock(peerA, peerB);
-            knock(peerB, peerA);
-            network.advance(1);
-            if (peerA.hasHeard && peerB.hasHeard) {
-                return round;
-            }
-        }
-        return NONE;
-    }
-
+    /** A peer sends to its target; if that reaches the other peer, that one has heard of it. */
     private void knock(Peer from, Peer to) {
         int reached = network.carry(from.home, from.target);
-        if (reached == to.number && to.node.deliveryPort == PUNCH_PORT) {
+        Node receiver = network.hostAt(reached);
+        if (reached == to.number && receiver != null && receiver.deliveryPort == PUNCH_PORT) {
             to.hasHeard = true;
-            to.target = to.node.deliverySource;
+            to.target = receiver.deliverySource;
         }
     }
 
@@ -426,7 +425,6 @@ public final class HolePuncher {
     /** One of the two hosts that punch. */
     private static final class Peer {
         final int number;
-        final Node node;
         /** The endpoint from which it sends. */
         final int home;
         /** Its endpoint as the server saw it the last time. */
@@ -434,9 +432,8 @@ public final class HolePuncher {
         int target = NONE;
         boolean hasHeard = false;
 
-        Peer(int number, Node node) {
+        Peer(int number) {
             this.number = number;
-            this.node = node;
             this.home = endpoint(number, PUNCH_PORT);
         }
     }
@@ -548,7 +545,8 @@ public final class HolePuncher {
 
         /** Sends a packet and counts it; returns the host, or 0 minus the reason of its loss. */
         int carry(int source, int remote) {
-            int result = travel(source, remote);
+            int seen = goOut(source, remote);
+            int result = seen < 0 ? seen : comeIn(seen, remote);
             int reason = -result;
             sent++;
             if (result >= 0) {
@@ -559,7 +557,8 @@ public final class HolePuncher {
             return result;
         }
 
-        private int travel(int source, int remote) {
+        /** Takes a packet outwards; returns its source endpoint there, or 0 minus the reason. */
+        private int goOut(int source, int remote) {
             int goal = nodeOf(remote);
             int goalNet = netOf(goal);
             int net = netOf(nodeOf(source));
@@ -585,23 +584,24 @@ public final class HolePuncher {
                 net = netOf(net);
             }
             Translator gate = translatorAt(goal);
-            if (gate != null && wentOutThrough == goal && !gate.allowsHairpins) {
-                return -NO_HAIRPIN;
-            }
-            return comeIn(seen, remote);
+            boolean isRefused = gate != null && wentOutThrough == goal && !gate.allowsHairpins;
+            return isRefused ? -NO_HAIRPIN : seen;
         }
 
-        /** Takes a packet from an endpoint inwards, until it is at a host or lost. */
-        private int comeIn(int source, int endpoint) {
-            int place = endpoint;
+        /** Takes a packet inwards; returns the host that it reaches, or 0 minus the reason. */
+        private int comeIn(int source, int remote) {
+            int place = remote;
             // An inner endpoint's node has a higher number, so the way in has an end.
             for (int steps = 0; steps < MAX_NODES; steps++) {
-                Translator here = translatorAt(nodeOf(place));
-                if (here == null) {
-                    return deliver(source, place);
+                Node receiver = hostAt(nodeOf(place));
+                if (receiver != null) {
+                    receiver.deliverySource = source;
+                    receiver.deliveryPort = portOf(place);
+                    return nodeOf(place);
                 }
-                Mapping used = here.mappingIn(portOf(place));
-                if (used == null) {
+                Translator here = translatorAt(nodeOf(place));
+                Mapping used = here == null ? null : here.mappingIn(portOf(place));
+                if (here == null || used == null) {
                     return -NO_MAPPING;
                 }
                 if (!used.admits(source, here.filterRule)) {
@@ -612,17 +612,7 @@ public final class HolePuncher {
                 }
                 place = used.inner;
             }
-            return -UNREACHABLE;
-        }
-
-        private int deliver(int source, int endpoint) {
-            Node receiver = hostAt(nodeOf(endpoint));
-            if (receiver == null) {
-                return -UNREACHABLE;
-            }
-            receiver.deliverySource = source;
-            receiver.deliveryPort = portOf(endpoint);
-            return nodeOf(endpoint);
+            return -NO_MAPPING;
         }
 
         /** The least ticks left of the mappings on the way out; NONE if one or all are missing. */
@@ -1077,15 +1067,12 @@ public final class HolePuncher {
         static final int AT_DIGIT = 1;
         static final int AT_PARENTHESIS = 2;
 
-        final Network made;
+        /** Not the network that is simulated, as the text may turn out to be wrong. */
+        final Network made = new Network();
         final int[] digits = new int[3];
         int expected = AT_NODE;
         int digitCount = 0;
         int net = NONE;
-
-        NetworkReader(Network made) {
-            this.made = made;
-        }
 
         /** Returns the index of the first error, or the length if there is none. */
         int readAll(int[] codes, int length) {
