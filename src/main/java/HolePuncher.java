@@ -775,19 +775,20 @@ public final class HolePuncher {
         static final int COUNTING = 1;
         static final int MOST_TRIES = 1000000;
 
-        int mappingRule = 0;
-        int filterRule = 0;
-        int assignment = 0;
-        int step = 1;
-        int lifetime = 60;
-        boolean allowsHairpins = false;
-        boolean refreshesInwards = false;
-        int counter = FIRST_PORT;
-        long random = 1;
+        int mappingRule;
+        int filterRule;
+        int assignment;
+        int step;
+        int lifetime;
+        boolean allowsHairpins;
+        boolean refreshesInwards;
+        int counter;
+        long random;
         /** Mappings from size on are null, or kept to be used again. */
         final Mapping[] mappings = new Mapping[MAX_MAPPINGS];
         int size = 0;
 
+        /** Begins as a new translator does; one that was just made is not yet fit for use. */
         void reset(int newMappingRule, int newFilterRule, int newAssignment, int seed) {
             mappingRule = newMappingRule;
             filterRule = newFilterRule;

@@ -44,7 +44,7 @@ public final class ModelTest {
             }
             Check.dueDouble("delivery() of run " + run, test.x.delivery(), test.model.delivery());
         }
-        System.out.println(answers);
+        System.out.println(RUNS + " runs with " + answers.size() + " kinds of answers");
         for (String name : new String[] {"send -1", "send -2", "send -3", "send -4", "send -5", "send", "reply",
             "reply -2", "reply -3", "punch 0", "punch 1", "punch 2", "punch 3", "punch -1", "ifSent -5",
             "keepAlive", "timeLeft", "timeLeft -1", "restore", "load", "load IllegalArgumentException",

@@ -55,6 +55,11 @@ public final class NetworksTest {
         Check.refuses("restore() after begin", x, STATE, x::restore);
         Check.due("the buffer after begin", x.clearBuffer(), 1);
         Check.due("begin() again", x.begin(), 0);
+        for (int i = 0; i < 3; i++) {
+            int old = i;
+            Check.refuses("node(" + old + ", 0) after begin", x, INDEX, () -> x.node(old, 0));
+            Check.refuses("addHost(" + old + ") after begin", x, INDEX, () -> x.addHost(old));
+        }
         x.addTranslator(NONE, 0, 0, 1);
         int[] fresh = {0, 0, 1, 1, 60, 0, 0, 0, 1000};
         for (int what = 0; what <= 8; what++) {
@@ -218,6 +223,13 @@ public final class NetworksTest {
         Check.due("it takes the free port", x.mapping(0, 2, 2), 100);
         Check.due("it has one contact", x.mapping(0, 2, 6), 1);
         Check.due("mappings", x.translator(0, 7), 3);
+        for (int port = 10; port <= 14; port++) {
+            x.send(1, 100, 2, port);
+        }
+        int[] keys = {2, 4, 9, 10, 11, 12, 13, 14};
+        for (int i = 0; i < 8; i++) {
+            Check.due("mapping(0, " + i + ", 4)", x.mapping(0, i, 4), keys[i]);
+        }
     }
 
     private static void saveAndRestore() {
@@ -271,5 +283,14 @@ public final class NetworksTest {
         Check.due("it is gone", x.send(4, 7, 0, port), -3);
         x.send(1, 6, 4, 6);
         Check.due("the same random port again", x.mapping(0, 1, 2), next);
+        x.pass(100);
+        for (int other = 20; other <= 24; other++) {
+            x.send(1, 8, 4, other);
+        }
+        x.restore();
+        Check.due("the number of contacts is back", x.mapping(0, 0, 6), 1);
+        Check.due("the time is back", x.mapping(0, 0, 5), 60);
+        Check.due("the contact is back", x.send(4, 6, 0, port), 1);
+        Check.due("the others are gone", x.send(4, 20, 0, port), -3);
     }
 }

@@ -29,6 +29,7 @@ public final class PacketsTest {
         punchFiltered();
         punchPredicted();
         punchPredictedOutOfRange();
+        punchMeetsAnother();
         punchFailed();
         punchWrong();
         ifSent();
@@ -422,6 +423,8 @@ public final class PacketsTest {
         Check.due("the mapping is dead", x.count(3), 0);
         Check.due("lost ones do not count", x.keepAlive(2, 500, 1, 1, 1, 3), 0);
         Check.due("lost for the reason 1", x.count(6), 3);
+        HolePuncher y = Check.network("hh");
+        Check.due("delivered to the host 0", y.keepAlive(1, 500, 0, 1, 1, 3), 3);
         x.send(1, 500, 2, 1);
         x.setNumber(0, 3, 1);
         Check.due("kept alive from outside", x.keepAlive(2, 1, 0, 500, 50, 3), 3);
@@ -485,6 +488,11 @@ public final class PacketsTest {
         Check.due("the predicted port", z.mapping(3, 2, 2), 1014);
         HolePuncher both = Check.network("ht221(h)t221(h)");
         Check.due("both predicted", both.punch(2, 4, 0, true), 2);
+        for (int translator : new int[] {1, 3}) {
+            Check.due("first to the port 1 of the server", both.mapping(translator, 0, 4), 1);
+            Check.due("then to its port 2", both.mapping(translator, 1, 4), 2);
+            Check.due("and then to the other", both.mapping(translator, 2, 3), 4 - translator);
+        }
     }
 
     /** A target beyond the ports is not used: the port that the server saw the second time is. */
@@ -519,6 +527,26 @@ public final class PacketsTest {
         }
         Check.isTrue("a prediction above 9999 was met", tooGreat);
         Check.isTrue("a prediction below 1 was met", tooSmall);
+    }
+
+    /** The predicted port, 502, belongs to another endpoint: no packet there counts as heard. */
+    private static void punchMeetsAnother() {
+        HolePuncher x = Check.network("ht200(hh)h");
+        for (int port = 11; port <= 13; port++) {
+            x.send(3, 500, 0, port);
+        }
+        x.pass(40);
+        x.send(3, 500, 0, 13);
+        x.pass(21);
+        Check.due("only 502 is taken", x.mapping(1, 0, 2), 502);
+        Check.due("a third host at 500", x.punch(4, 2, 0, true), 2);
+        Check.due("it got the packet", x.node(3, 4), 4);
+        HolePuncher y = Check.network("ht200(h)h");
+        y.send(2, 502, 0, 11);
+        Check.due("the other one at another port", y.punch(3, 2, 0, true), 2);
+        HolePuncher z = Check.network("ht200(h)h");
+        z.send(2, 502, 0, 11);
+        Check.due("the first of both", z.punch(2, 3, 0, true), 1);
     }
 
     private static void punchFailed() {

@@ -7,6 +7,7 @@ public final class TextsTest {
         append();
         clearBuffer();
         firstError();
+        firstErrorAgain();
         load();
         loadBegins();
         Check.end();
@@ -92,6 +93,26 @@ public final class TextsTest {
         error("hhhhhhhhht000()h", 15);
         error("t000(t000(t000(t000(t000(t000(t000(t000(", 40);
         error("h!h~", 1);
+    }
+
+    /** What an unfinished or wrong text left behind does not count for the next one. */
+    private static void firstErrorAgain() {
+        HolePuncher x = new HolePuncher();
+        for (String before : new String[] {"t", "t0", "t00", "t000", "t000(", "t000(t111(h", "hx", "t3"}) {
+            Check.type(x, before);
+            x.firstError();
+            x.clearBuffer();
+            Check.type(x, "t222()h)");
+            Check.due("firstError() after " + before, x.firstError(), 7);
+            x.clearBuffer();
+            Check.type(x, before);
+            x.firstError();
+            x.clearBuffer();
+            Check.type(x, "ht210()");
+            Check.due("load() after " + before, x.load(), 2);
+            Check.due("the net", x.node(0, 1), -1);
+            Check.due("the filter rule", x.translator(1, 1), 1);
+        }
     }
 
     private static void incomplete(String text) {
