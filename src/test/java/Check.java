@@ -4,23 +4,49 @@ import java.util.function.LongSupplier;
 final class Check {
     private static int done = 0;
     private static int wrong = 0;
+    private static String sentence = "";
+    private static int doneBeforeSentence = 0;
 
     private Check() {
+    }
+
+    /** The sentence of the document that the answers from here on are about. */
+    static void sentence(String text) {
+        endSentence();
+        sentence = text;
+        doneBeforeSentence = done;
+    }
+
+    private static void endSentence() {
+        if (!sentence.isEmpty() && done == doneBeforeSentence) {
+            fail("nothing was tested");
+        }
+        sentence = "";
+    }
+
+    private static void fail(String message) {
+        wrong++;
+        System.out.println(sentence.isEmpty() ? message : "\"" + sentence + "\": " + message);
     }
 
     static void due(String what, long got, long want) {
         done++;
         if (got != want) {
-            wrong++;
-            System.out.println(what + " answered " + got + ", due is " + want);
+            fail(what + " answered " + got + ", due is " + want);
         }
     }
 
     static void dueDouble(String what, double got, double want) {
         done++;
         if (Double.compare(got, want) != 0) {
-            wrong++;
-            System.out.println(what + " answered " + got + ", due is " + want);
+            fail(what + " answered " + got + ", due is " + want);
+        }
+    }
+
+    static void dueText(String what, String got, String want) {
+        done++;
+        if (!got.equals(want)) {
+            fail(what + " answered " + got + ", due is " + want);
         }
     }
 
@@ -31,18 +57,17 @@ final class Check {
     /** The call throws exactly this exception, and changes nothing that can be asked for. */
     static void refuses(String what, HolePuncher x, Class<?> kind, LongSupplier call) {
         long before = x.digest();
-        String got = "nothing";
-        try {
-            call.getAsLong();
-        } catch (RuntimeException e) {
-            got = e.getClass().getSimpleName();
-        }
-        done++;
-        if (!got.equals(kind.getSimpleName())) {
-            wrong++;
-            System.out.println(what + " threw " + got + ", due is " + kind.getSimpleName());
-        }
+        dueText(what, answer(call), kind.getSimpleName());
         due(what + ": the digest after it", x.digest(), before);
+    }
+
+    /** What a call returns, or the name of what it throws. */
+    static String answer(LongSupplier call) {
+        try {
+            return Long.toString(call.getAsLong());
+        } catch (RuntimeException e) {
+            return e.getClass().getSimpleName();
+        }
     }
 
     static void type(HolePuncher x, String text) {
@@ -73,6 +98,7 @@ final class Check {
     }
 
     static void end() {
+        endSentence();
         System.out.println(done + " answers, " + wrong + " of them not as due");
         if (wrong != 0 || done == 0) {
             System.exit(1);

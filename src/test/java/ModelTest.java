@@ -131,14 +131,6 @@ public final class ModelTest {
         return anyPort();
     }
 
-    private static String answer(LongSupplier supplier) {
-        try {
-            return Long.toString(supplier.getAsLong());
-        } catch (RuntimeException e) {
-            return e.getClass().getSimpleName();
-        }
-    }
-
     private String step(Map<String, Integer> answers) {
         String[] both = anyCall();
         String name = call.substring(0, call.indexOf('('));
@@ -157,7 +149,7 @@ public final class ModelTest {
     private String[] both(String text, LongSupplier ours, LongSupplier models) {
         call = text;
         calls++;
-        return new String[] {answer(ours), answer(models)};
+        return new String[] {Check.answer(ours), Check.answer(models)};
     }
 
     private String[] anyCall() {
