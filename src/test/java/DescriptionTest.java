@@ -564,6 +564,8 @@ public final class DescriptionTest {
                 + "this packet.");
         HolePuncher y = Check.network("ht021(h)h");
         Check.due("a hears b first", y.punch(3, 2, 0, false), 2);
+        HolePuncher v = Check.network("ht221(h)h");
+        Check.due("b answers to the new target at once", v.punch(2, 3, 0, false), 1);
         HolePuncher z = Check.network("hht200(h)");
         z.send(3, 502, 0, 1);
         Check.due("b's ports 500 and 501, then 502, which is of another port of b", z.punch(1, 3, 0, true), 2);
@@ -608,8 +610,8 @@ public final class DescriptionTest {
                 + "most 10 nodes begins with the characters before it and this character.");
         String[] texts = {"", "h", "t", "t0", "t000", "t000(", "t000()", ")", "(", "0", "H", "t3", "t00(", "t0000",
             "t000)", "t000(()", "t000())", "hx", "hhhhhhhhhh", "hhhhhhhhhhh", "hhhhhhhhht", "hhhhhhhhhht", "hhhhhhhhht000()h",
-            "t000(hhhhhhhhh)", "t000(hhhhhhhhhh)", "x)("};
-        int[] errors = {0, 1, 1, 2, 4, 5, 6, 0, 0, 0, 0, 1, 3, 4, 4, 5, 6, 1, 10, 10, 10, 10, 15, 15, 14, 0};
+            "t000(hhhhhhhhh)", "t000(hhhhhhhhhh)", "x)(", "t000(t000(t000(t000(t000(t000(t000(t000("};
+        int[] errors = {0, 1, 1, 2, 4, 5, 6, 0, 0, 0, 0, 1, 3, 4, 4, 5, 6, 1, 10, 10, 10, 10, 15, 15, 14, 0, 40};
         for (int i = 0; i < texts.length; i++) {
             HolePuncher w = new HolePuncher();
             Check.type(w, texts[i]);

@@ -40,6 +40,8 @@ final class Document {
 
     /** The next text, which says nothing that could be tried, or what is tried with the one after it. */
     void reads(String words) {
+        // The sentence before ends here, so that reading on does not count as an answer about it.
+        Check.sentence("");
         int found = text.indexOf(words, place);
         String before = found < 0 ? "nowhere" : text.substring(place, found).trim();
         Check.dueText("what stands before \"" + words + "\"", before, "");
@@ -47,6 +49,7 @@ final class Document {
     }
 
     void ends() {
+        Check.sentence("");
         Check.dueText("what stands at the end of the part", text.substring(place).trim(), "");
     }
 }

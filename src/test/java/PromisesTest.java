@@ -742,6 +742,8 @@ public final class PromisesTest {
         Check.due("no one of another host", x.timeLeft(4, 5, 0, 6), NONE);
         Check.due("to a host beside it", x.timeLeft(3, 5, 4, 6), NONE);
         Check.due("in the public net", x.timeLeft(0, 5, 1, 6), NONE);
+        x.send(5, 5, 3, 6);
+        Check.due("a packet that goes out, but does not arrive", x.timeLeft(5, 5, 3, 6), 50);
         x.setNumber(2, 1, 3);
         Check.due("40 and 3", x.timeLeft(3, 5, 0, 6), 3);
         x.pass(4);
